@@ -1,0 +1,74 @@
+/** One object under test, texts told to it as a tape, and the count of answers that were not as due. */
+final class Bench {
+    static final int LAND = 0;
+    static final int TREATY = 1;
+    static final int BOOK = 2;
+    static final int SIGHT = 3;
+    static final int GAME = 4;
+
+    private static int asked;
+    private static int wrong;
+
+    NightBridge x = new NightBridge();
+
+    static void due(String what, long got, long want) {
+        asked++;
+        if (got != want) {
+            wrong++;
+            System.out.println(what + " answered " + got + ", due is " + want);
+        }
+    }
+
+    static void due(String what, boolean got, boolean want) {
+        due(what, got ? 1 : 0, want ? 1 : 0);
+    }
+
+    /** The end of a test's main. */
+    static void close(String test) {
+        System.out.println(test + ": " + asked + " answers, " + wrong + " not as due");
+        if (wrong != 0 || asked == 0) {
+            System.exit(1);
+        }
+    }
+
+    /** The tape has just this text. */
+    void put(String text) {
+        x.end(0);
+        for (int i = 0; i < text.length(); i += 20) {
+            x.feed(four(text, i), four(text, i + 4), four(text, i + 8), four(text, i + 12), four(text, i + 16));
+        }
+        due("end of " + text, x.end(text.length()), text.length());
+    }
+
+    private static int four(String text, int at) {
+        int number = 0;
+        for (int i = at; i < at + 4; i++) {
+            number = number << 8 | (i < text.length() ? text.charAt(i) & 255 : ' ');
+        }
+        return number;
+    }
+
+    int tell(int sort, String text) {
+        return tell(sort, NightBridge.NONE, text);
+    }
+
+    int tell(int sort, int at, String text) {
+        put(text);
+        return x.text(sort, at);
+    }
+
+    /** A text of a sort has that fault at that place, and nothing is told by it. */
+    void dueFault(int sort, String text, int fault, int place) {
+        int before = x.count(sort);
+        int got = tell(sort, text);
+        due("text of " + text, got, fault == 0 ? before : -1);
+        due("fault(0) of " + text, x.fault(0), fault);
+        due("fault(1) of " + text, x.fault(1), place);
+        due("count after " + text, x.count(sort), fault == 0 ? before + 1 : before);
+        due("tape after " + text, x.end(1), -1);
+    }
+
+    static String times(int n, String text) {
+        return text.repeat(n);
+    }
+}
