@@ -33,7 +33,7 @@ public final class NightBridge {
 
     private final Told now = new Told();
     private final Told[] images = new Told[IMAGES];
-    private final Reader reader = new Reader(now.tape);
+    private final Reader reader = new Reader();
     private final Planner planner = new Planner();
     private final int[] liked = new int[2 * PEOPLE];
     private final int[] hourWorth = new int[2 * DAY];
@@ -74,7 +74,7 @@ public final class NightBridge {
         if (slot == NONE) {
             return ABSENT;
         }
-        reader.read(sort, length);
+        reader.read(sort, now.tape, length);
         if (reader.fault != 0) {
             now.fault = reader.fault;
             now.faultPlace = reader.faultPlace;
@@ -347,7 +347,7 @@ public final class NightBridge {
     }
 
     private static int firstBreach(Land land, Book book, int[] where) {
-        for (int i = 0; i < book.hours; i++) {
+        for (int i = 0; i < book.trackHours(); i++) {
             if (book.track[i] != land.at(where, i)) {
                 return i;
             }
@@ -357,7 +357,7 @@ public final class NightBridge {
 
     private static int owed(Land land, Book book, int[] where, int city) {
         int more = 0;
-        for (int i = 0; i < book.hours; i++) {
+        for (int i = 0; i < book.trackHours(); i++) {
             more += oneIf(land.at(where, i) == city) - oneIf(book.track[i] == city);
         }
         return more;
@@ -512,11 +512,11 @@ public final class NightBridge {
     private static int cutByKnife(Land land, int cutter) {
         int all = land.allHours();
         int below = 1;
-        int least = Integer.MAX_VALUE;
+        int least = NONE;
         for (int k = 1; k < land.hours; k++) {
             int part = (1 << k) - 1;
             int apart = Math.abs(land.worthOf(cutter, part) - land.worthOf(cutter, all & ~part));
-            if (apart < least) {
+            if (least == NONE || apart < least) {
                 least = apart;
                 below = part;
             }
@@ -1242,7 +1242,7 @@ public final class NightBridge {
         int hours;
         final int[] where = new int[SPELLS];
         final int[] lasts = new int[SPELLS];
-        // hour by hour, as far as it goes
+        // where it was hour by hour
         final int[] track = new int[TOLD_HOURS];
 
         void clear() {
@@ -1271,10 +1271,15 @@ public final class NightBridge {
             hours += length;
         }
 
+        /** A book with more hours than may be is a fault, but it is read up to its end. */
+        int trackHours() {
+            return Math.min(hours, TOLD_HOURS);
+        }
+
         /** In how many hours, from one up to (not with) another, the night was at a place. */
         int hoursAt(int place, int from, int to) {
             int found = 0;
-            for (int i = Math.max(0, from); i < to && i < TOLD_HOURS; i++) {
+            for (int i = Math.max(0, from); i < to && i < trackHours(); i++) {
                 found += oneIf(track[i] == place);
             }
             return found;
@@ -1283,7 +1288,7 @@ public final class NightBridge {
         int villages(int cross) {
             int found = 0;
             int stay = 0;
-            for (int i = 0; i < hours && i < TOLD_HOURS; i++) {
+            for (int i = 0; i < trackHours(); i++) {
                 stay = track[i] == BRIDGE ? stay + 1 : 0;
                 // counted once, at the first hour that is too much
                 found += oneIf(stay == cross + 1);
@@ -1348,19 +1353,16 @@ public final class NightBridge {
         static final int MARK = 3;
         static final int BAD = 4;
 
-        final int[] tape;
+        int[] tape = new int[0];
         int length;
         int place;
         int behind;
         int kind;
         int value;
 
-        Tokens(int[] tape) {
-            this.tape = tape;
-        }
-
-        void begin(int bytes) {
-            length = Math.min(bytes, tape.length);
+        void begin(int[] bytes, int count) {
+            tape = bytes;
+            length = Math.min(count, bytes.length);
             behind = 0;
             step();
         }
@@ -1442,7 +1444,7 @@ public final class NightBridge {
             1, 12, 12, 0, 9, 23, 23, 9, 99, 10, 0, 0, 23, 99, 0, 0,
             2, 23, 23, 0, 2, 24, 0, 0, 9, 23, 0, 0, 7, 60, 0, 0};
 
-        final Tokens tokens;
+        final Tokens tokens = new Tokens();
         final Land land = new Land();
         final int[] treaty = new int[DAY];
         final Book book = new Book();
@@ -1460,13 +1462,9 @@ public final class NightBridge {
         int lastPerson;
         int lastHour;
 
-        Reader(int[] tape) {
-            tokens = new Tokens(tape);
-        }
-
-        void read(int sort, int length) {
+        void read(int sort, int[] tape, int length) {
             clear();
-            tokens.begin(length);
+            tokens.begin(tape, length);
             for (int lines = 0; lines <= TAPE && tokens.kind != Tokens.END; lines++) {
                 if (!readLine(sort)) {
                     fault = 1;
@@ -1675,8 +1673,9 @@ public final class NightBridge {
      * are known. Score: value, then price, then the row as a number, base 3, all in one number to be made greatest.
      */
     private static final class Planner {
+        // 8 stands, 0 to 24 hours of dark, 0 to 6 carryings; no shorter crossing needs more
         static final int CELLS = 1400;
-        static final long NOTHING = Long.MIN_VALUE;
+        static final long NOTHING = -0x7fffffffffffffffL;
         // more than any price: 24 carryings of 99 and 99 at most
         static final int VALUE_UNIT = 4753;
 
@@ -1685,52 +1684,52 @@ public final class NightBridge {
         final long[] rank = new long[DAY];
         final int[] points = new int[2 * DAY];
         final int[] fee = new int[DAY];
-        Land land;
         int hours;
         int cross;
         int stands;
         int carried;
+        int cells;
         long unit;
 
-        void plan(Land asked) {
-            prepare(asked);
+        void plan(Land land) {
+            prepare(land);
             long found = NOTHING;
             for (int first = 0; first < stands; first++) {
-                found = Math.max(found, bestFrom(first));
+                found = Math.max(found, bestFrom(land, first));
             }
-            asked.planned = true;
-            asked.hasBest = found != NOTHING;
+            land.planned = true;
+            land.hasBest = found != NOTHING;
             if (found != NOTHING) {
-                keep(asked, found);
+                keep(land, found);
             }
         }
 
-        void prepare(Land asked) {
-            land = asked;
-            hours = asked.hours;
-            cross = asked.cross;
+        void prepare(Land land) {
+            hours = land.hours;
+            cross = land.cross;
             stands = 2 + 2 * cross;
             // without hours on the bridge the carryings need not be told apart
             carried = cross > 0 ? hours / (cross + 1) + 1 : 1;
+            cells = Math.min(CELLS, stands * (hours + 1) * carried);
             unit = 1;
             for (int h = hours - 1; h >= 0; h--) {
                 rank[h] = unit;
                 unit *= 3;
-                points[h] = asked.worthOf(0, 1 << h) * VALUE_UNIT;
-                points[DAY + h] = asked.worthOf(1, 1 << h) * VALUE_UNIT;
-                fee[h] = asked.feeAt(h);
+                points[h] = land.worthOf(0, 1 << h) * VALUE_UNIT;
+                points[DAY + h] = land.worthOf(1, 1 << h) * VALUE_UNIT;
+                fee[h] = land.feeAt(h);
             }
         }
 
-        void keep(Land asked, long score) {
+        void keep(Land land, long score) {
             long gained = -Math.floorDiv(-score, Math.max(1L, unit));
             long row = gained * unit - score;
             for (int h = hours - 1; h >= 0; h--) {
-                asked.bestRow[h] = (int) (row % 3);
+                land.bestRow[h] = (int) (row % 3);
                 row /= 3;
             }
-            asked.most = (int) -Math.floorDiv(-gained, (long) VALUE_UNIT);
-            asked.cheap = (int) ((long) asked.most * VALUE_UNIT - gained);
+            land.most = (int) -Math.floorDiv(-gained, (long) VALUE_UNIT);
+            land.cheap = (int) ((long) land.most * VALUE_UNIT - gained);
         }
 
         int cell(int stand, int dark0, int carryings) {
@@ -1738,18 +1737,17 @@ public final class NightBridge {
         }
 
         /** The best of the rows that begin with a stand. */
-        long bestFrom(int first) {
-            int dark0 = first == 0 ? 1 : 0;
-            Arrays.fill(best, NOTHING);
-            best[cell(first, dark0, 0)] = scoreOf(first, 0);
+        long bestFrom(Land land, int first) {
+            Arrays.fill(best, 0, cells, NOTHING);
+            best[cell(first, oneIf(first == 0), 0)] = scoreOf(first, 0);
             for (int h = 1; h < hours; h++) {
-                Arrays.fill(then, NOTHING);
+                Arrays.fill(then, 0, cells, NOTHING);
                 advance(h);
                 long[] spent = best;
                 best = then;
                 then = spent;
             }
-            return bestClosed(first);
+            return bestClosed(land, first);
         }
 
         void advance(int hour) {
@@ -1782,19 +1780,19 @@ public final class NightBridge {
         }
 
         /** The best of the ends behind which the first stand comes, round. */
-        long bestClosed(int first) {
+        long bestClosed(Land land, int first) {
             long found = NOTHING;
             for (int stand = 0; stand < stands; stand++) {
                 if (onward(stand) == first || leaving(stand) == first) {
                     for (int dark0 = 0; dark0 <= hours; dark0++) {
-                        found = Math.max(found, bestEnd(first, stand, dark0));
+                        found = Math.max(found, bestEnd(land, first, stand, dark0));
                     }
                 }
             }
             return found;
         }
 
-        long bestEnd(int first, int stand, int dark0) {
+        long bestEnd(Land land, int first, int stand, int dark0) {
             boolean arrives = isArrival(stand, first);
             long found = NOTHING;
             for (int carryings = 0; carryings < carried; carryings++) {

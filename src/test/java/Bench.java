@@ -6,6 +6,11 @@ final class Bench {
     static final int SIGHT = 3;
     static final int GAME = 4;
 
+    static final String SOME_LAND = "hours 6;cross 1;crowd 2;walk 1;person 0 2 2;person 1 2 3;likes 0 0 2 3;"
+            + "likes 0 3 3 1;likes 1 3 5 4;likes 1 0 0 2;bearer 5 3;bearer 8 1;toll 0 7;toll 3 2;";
+    /** In that land its row is 0 0 2 1 1 2. */
+    static final String SOME_TREATY = "night 0 0 1;night 1 3 4;";
+
     private static int asked;
     private static int wrong;
 

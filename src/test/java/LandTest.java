@@ -3,9 +3,6 @@ import java.util.List;
 /** Promises 6 to 12: what was told, rows, books. */
 final class LandTest {
     private static final int NONE = NightBridge.NONE;
-    static final String LAND = "hours 6;cross 1;crowd 2;walk 1;person 0 2 2;person 1 2 3;likes 0 0 2 3;"
-            + "likes 0 3 3 1;likes 1 3 5 4;likes 1 0 0 2;bearer 5 3;bearer 8 1;toll 0 7;toll 3 2;";
-    static final String TREATY = "night 0 0 1;night 1 3 4;";
 
     public static void main(String[] args) {
         land();
@@ -13,6 +10,7 @@ final class LandTest {
         night();
         row();
         rowEdges();
+        rowOfTen();
         rowsByOracle();
         spell();
         days();
@@ -33,6 +31,7 @@ final class LandTest {
             Bench.due("a land told, " + what, b.x.land(1, what), told[what]);
         }
         Bench.due("TOLL of hour 5", b.x.land(1, 15), 97);
+        Bench.due("TOLL of hour 0", b.x.land(1, 10), 0);
         Bench.due("TOLL of hour 4", b.x.land(1, 14), 0);
         Bench.due("TOLL of hour 6", b.x.land(1, 16), NONE);
         Bench.due("COST of bearer 0", b.x.land(1, 50), 99);
@@ -84,8 +83,8 @@ final class LandTest {
 
     private static void row() {
         Bench b = new Bench();
-        b.tell(Bench.LAND, LAND);
-        b.tell(Bench.TREATY, TREATY);
+        b.tell(Bench.LAND, Bench.SOME_LAND);
+        b.tell(Bench.TREATY, Bench.SOME_TREATY);
         // 0 0 2 1 1 2: it comes at 0 (toll 7) and at 3 (toll 2), carried for 5 each time
         int[] due = {1, 2, 2, 2, 1, 14, 19, 0};
         for (int what = 0; what < 8; what++) {
@@ -128,6 +127,26 @@ final class LandTest {
         dueRow("hours 8;cross 3;", "night 1 3 3;night 0 7 7;", 1, 2);
         // a day ends with HOURS, whatever the treaty tells of later ones
         dueRow("hours 4;cross 1;", "night 0 0 0;night 1 2 2;night 1 4 23;", 1, 2);
+    }
+
+    private static void rowOfTen() {
+        Bench b = new Bench();
+        StringBuilder s = new StringBuilder("hours 24;");
+        for (int p = 0; p < 10; p++) {
+            s.append("person ").append(p % 2).append(' ').append(p).append(" 1;likes ").append(p).append(" 0 23 9;");
+        }
+        b.tell(Bench.LAND, s.toString());
+        b.tell(Bench.TREATY, "night 0 0 7;night 1 9 20;");
+        int[] due = {0, 2, 8, 12, 1, 5 * 9 * 20, 0, 0};
+        for (int what = 0; what < 8; what++) {
+            Bench.due("the row of ten, " + what, b.x.row(0, 0, what), due[what]);
+        }
+        b.tell(Bench.TREATY, 0, "night 0 0 6;night 1 9 13;");
+        Bench.due("no SLEEP of ten", b.x.row(0, 0, 7), 0b1110000000);
+        Bench.due("WORTH of all bits", b.x.worth(0, 0, -1), 5 * 9 * 24);
+        Bench.due("STRAIT of ten in a long day", b.x.best(0, 3), 0);
+        b.tell(Bench.LAND, 0, s.toString().replace("hours 24", "hours 16").replace("0 23 9", "0 15 9"));
+        Bench.due("STRAIT of ten", b.x.best(0, 3), 1);
     }
 
     private static void rowsByOracle() {
@@ -173,7 +192,7 @@ final class LandTest {
 
     private static void days() {
         Bench b = new Bench();
-        b.tell(Bench.LAND, LAND);
+        b.tell(Bench.LAND, Bench.SOME_LAND);
         // 0 0 2 1 1 2 | 2 2 0 0 0 1 | 1 1
         b.tell(Bench.BOOK, "at 0 2;at 2 1;at 1 2;at 2 1;at 2 2;at 0 3;at 1 3;");
         Bench.due("whole days", b.x.days(0, 0, 0), 2);
@@ -202,6 +221,11 @@ final class LandTest {
             Bench.due("SLEPT of " + d, b.x.days(0, 0, 100 + d), slept[d]);
         }
         Bench.due("SLEPT of 4", b.x.days(0, 0, 104), -2);
+        Bench.due("VILLAGES of 96 hours", b.x.days(0, 0, 1), 1);
+        b.tell(Bench.LAND, 0, "cross 1;");
+        b.tell(Bench.BOOK, 0, "at 2 5;");
+        b.tell(Bench.BOOK, 0, "at 2 1;");
+        Bench.due("VILLAGES of one hour", b.x.days(0, 0, 1), 0);
         b.tell(Bench.BOOK, 0, "");
         Bench.due("no days", b.x.days(0, 0, 0), 0);
         Bench.due("SLEPT of no day", b.x.days(0, 0, 100), -2);
@@ -209,8 +233,8 @@ final class LandTest {
 
     private static void breach() {
         Bench b = new Bench();
-        b.tell(Bench.LAND, LAND);
-        b.tell(Bench.TREATY, TREATY);
+        b.tell(Bench.LAND, Bench.SOME_LAND);
+        b.tell(Bench.TREATY, Bench.SOME_TREATY);
         b.tell(Bench.BOOK, "at 0 2;at 2 1;at 1 2;at 2 1;at 0 2;at 2 1;at 1 2;");
         Bench.due("no BREACH", b.x.breach(0, 0, 0, 0), NONE);
         Bench.due("nothing OWED", b.x.breach(0, 0, 0, 1), 0);

@@ -35,10 +35,11 @@ final class Oracle {
         for (int h = 0; h < o.hours; h++) {
             o.toll[h] = dice.between(0, 3) == 0 ? dice.between(0, 99) : 0;
         }
+        o.text();
         return o;
     }
 
-    /** Its text, as short as may be: likes are told in spans of the same like. */
+    /** Its text; likes for which the tape has no room become 0. */
     String text() {
         StringBuilder s = new StringBuilder();
         s.append("hours ").append(hours).append(";cross ").append(cross);

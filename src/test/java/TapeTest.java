@@ -314,7 +314,10 @@ final class TapeTest {
         Bench.due("FAULT of image 2", b.x.fault(0), 0);
         b.x.image(1);
         b.tell(Bench.LAND, 0, "");
+        Bench.due("image(0)", b.x.image(0), true);
         Bench.due("again(1) of a later image", b.x.again(1), true);
         Bench.due("HOURS of a later image", b.x.land(0, 0), 8);
+        Bench.due("again(0)", b.x.again(0), true);
+        Bench.due("HOURS of image 0", b.x.land(0, 0), 12);
     }
 }
