@@ -1,3 +1,5 @@
+import java.util.function.IntToLongFunction;
+
 /** One object under test, texts told to it as a tape, and the count of answers that were not as due. */
 final class Bench {
     static final int LAND = 0;
@@ -26,6 +28,31 @@ final class Bench {
 
     static void due(String what, boolean got, boolean want) {
         due(what, got ? 1 : 0, want ? 1 : 0);
+    }
+
+    /** Numbers from least on have these answers, one behind the other; on either side of them all are refused. */
+    static void dueFrom(String what, IntToLongFunction call, int least, long refused, long... due) {
+        for (int i = 0; i < due.length; i++) {
+            due(what + " of " + (least + i), call.applyAsLong(least + i), due[i]);
+        }
+        for (int number : new int[] {least - 1, least + due.length, Integer.MIN_VALUE, Integer.MAX_VALUE}) {
+            due(what + " of " + number, call.applyAsLong(number), refused);
+        }
+    }
+
+    /** Of all numbers those of the pairs (number, answer) have an answer; all others are refused. */
+    static void dueOnly(String what, IntToLongFunction call, long refused, int[]... pairs) {
+        int[] far = {Integer.MIN_VALUE, -1 << 30, -1 << 16, 1 << 16, 1 << 30, Integer.MAX_VALUE - 1, Integer.MAX_VALUE};
+        for (int number : far) {
+            due(what + " of " + number, call.applyAsLong(number), refused);
+        }
+        for (int number = -130; number <= 1300; number++) {
+            long due = refused;
+            for (int[] pair : pairs) {
+                due = pair[0] == number ? pair[1] : due;
+            }
+            due(what + " of " + number, call.applyAsLong(number), due);
+        }
     }
 
     /** The end of a test's main. */
