@@ -195,14 +195,21 @@ final class ErrandEdgesTest {
         for (int carryings = 0; carryings <= 4; carryings += 2) {
             for (int bearers = 1; bearers <= 6; bearers++) {
                 for (int weak = 0; weak < bearers; weak++) {
-                    String land = "hours 8;" + Bench.times(weak, "bearer 1 0;") + "bearer 1 10;"
+                    String land = "hours 8;person 1 " + carryings / 2 + " 0;" + Bench.times(weak, "bearer 1 0;") + "bearer 1 10;"
                             + Bench.times(bearers - weak - 1, "bearer 1 0;");
                     Bench b = told(land, treaties[carryings / 2]);
                     for (int days : new int[] {1, 2, 3, 7, 60}) {
                         int villages = 0;
+                        int bad = 0;
+                        int lastBad = -1;
                         for (int i = 0; i < carryings * days; i++) {
-                            villages += i % bearers == weak ? 1 : 0;
+                            boolean down = i % bearers == weak;
+                            villages += down ? 1 : 0;
+                            // every second one comes into city 1, and that day has too few hours of dark there
+                            bad += down && i % 2 == 1 && i / carryings != lastBad ? 1 : 0;
+                            lastBad = down && i % 2 == 1 ? i / carryings : lastBad;
                         }
+                        Bench.due("good days by the one of " + land + " in " + days, b.x.drawn(0, 0, 99, days, 10), days - bad);
                         Bench.due("VILLAGES of the one of " + land + " in " + days, b.x.drawn(0, 0, 99, days, 0), villages);
                         Bench.due("CARRYINGS of " + land + " in " + days, b.x.drawn(0, 0, 99, days, 1), carryings * days);
                     }

@@ -211,17 +211,20 @@ final class ImageEdgesTest {
     /** The best row, asked ahead of an image and behind it, is the land's that is told then. */
     private static void theBestAgain() {
         Bench b = new Bench();
-        b.tell(Bench.LAND, "hours 4;person 0 1 1;likes 0 1 1 5;");
+        b.tell(Bench.LAND, "hours 4;person 0 1 1;likes 0 1 1 5;toll 3 4;");
         b.x.image(0);
         Bench.due("MOST", b.x.best(0, 1), 5);
         b.x.image(1);
-        b.tell(Bench.LAND, 0, "hours 4;person 0 1 1;likes 0 2 2 7;");
+        b.tell(Bench.LAND, 0, "hours 4;person 0 1 1;likes 0 2 2 7;toll 2 8;bearer 1 1;");
+        Bench.due("CHEAP", b.x.best(0, 2), 10);
         b.x.image(2);
         int[] most = {5, 5, 7};
+        int[] cheap = {4, 4, 10};
         int[] night = {0, 0, 2};
         for (int k : new int[] {0, 2, 1, 2, 0, 1}) {
             b.x.again(k);
             Bench.due("MOST of image " + k, b.x.best(0, 1), most[k]);
+            Bench.due("CHEAP of image " + k, b.x.best(0, 2), cheap[k]);
             Bench.due("the night at 1 of image " + k, b.x.best(0, 11), night[k]);
             b.tell(Bench.LAND, 0, "hours 4;person 0 4 1;");
             Bench.due("no MOST then", b.x.best(0, 1), NONE);

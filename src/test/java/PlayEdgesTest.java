@@ -365,33 +365,35 @@ final class PlayEdgesTest {
         Bench.due("LEAST's from" + what, b.x.stolen(0, 0, 0, 3), first == 13 ? 0 : first > 0 ? (first - 1) % 4 : first);
     }
 
-    /** Away over the day's end; away for all hours but one; away for all. */
+    private static void dueTheft(int hours, String sight, int... due) {
+        Bench b = told("hours " + hours + ";person 0 0 0;", "night 0 0 23;", "", sight);
+        for (int what = 0; what < 4; what++) {
+            Bench.due("stolen, " + what + ", of " + hours + " by " + sight, b.x.stolen(0, 0, 0, what), due[what]);
+        }
+    }
+
+    private static String sawLight(int hours) {
+        StringBuilder s = new StringBuilder();
+        for (int h = 0; h < hours; h++) {
+            s.append("saw 0 ").append(h).append(" light;");
+        }
+        return s.toString();
+    }
+
+    /** Away over the day's end; away at the last hour; away for all hours, for all but some. */
     private static void theftsRound() {
         for (int hours : new int[] {4, 12, 24}) {
             int last = hours - 1;
-            Bench b = told("hours " + hours + ";person 0 0 0;", "night 0 0 23;", "", "");
-            b.tell(Bench.SIGHT, 0, "saw 0 0 light;saw 0 " + last + " light;saw 0 1 dark;saw 0 " + (last - 1) + " dark;");
-            int[] round = {1, 1 | 1 << last, 2, last};
-            StringBuilder all = new StringBuilder();
-            for (int h = 0; h < Math.min(20, hours); h++) {
-                all.append("saw 0 ").append(h).append(" light;");
-            }
-            Bench c = told("hours " + hours + ";person 0 0 0;", "night 0 0 23;", "", all.toString());
-            int many = Math.min(20, hours);
-            // 20 of 24 are seen: n from 20 on, of which n - 19 begin early enough, and all hours
-            int fits = 1;
-            for (int n = many; n < hours; n++) {
-                fits += n - many + 1;
-            }
-            int[] away = {fits, (1 << many) - 1, many == hours ? hours : many, 0};
-            Bench d = told("hours " + hours + ";person 0 0 0;", "night 0 0 23;", "", "saw 0 5 light;".replace("5", "" + last));
-            int[] one = {hours * (hours - 1) / 2 + 1, 1 << last, 1, last};
-            for (int what = 0; what < 4; what++) {
-                Bench.due("away round " + hours + ", " + what, b.x.stolen(0, 0, 0, what), round[what]);
-                Bench.due("away for all of " + hours + ", " + what, c.x.stolen(0, 0, 0, what), away[what]);
-                Bench.due("away at the last of " + hours + ", " + what, d.x.stolen(0, 0, 0, what), one[what]);
-            }
+            String beside = "saw 0 1 dark;saw 0 " + (last - 1) + " dark;";
+            dueTheft(hours, "saw 0 0 light;saw 0 " + last + " light;" + beside, 1, 1 | 1 << last, 2, last);
+            // n hours hold the last one by n ways to begin, all of them by one
+            dueTheft(hours, "saw 0 " + last + " light;", hours * (hours - 1) / 2 + 1, 1 << last, 1, last);
         }
+        dueTheft(4, sawLight(4), 1, 15, 4, 0);
+        dueTheft(20, sawLight(20), 1, (1 << 20) - 1, 20, 0);
+        dueTheft(21, sawLight(20), 2, (1 << 20) - 1, 20, 0);
+        // for 20, 21, 22, 23 hours by one, two, three, four ways to begin, and for all
+        dueTheft(24, sawLight(20), 1 + 2 + 3 + 4 + 1, (1 << 20) - 1, 20, 0);
     }
 
     // ---- games ----

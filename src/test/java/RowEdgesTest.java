@@ -11,6 +11,7 @@ final class RowEdgesTest {
         sleepJustSo();
         waysJustSo();
         waysOfBoth();
+        fewestByLight();
         strait();
         bestOfAlike();
         bestRound();
@@ -195,6 +196,19 @@ final class RowEdgesTest {
         }
     }
 
+    /** LIGHT that only more crossings give, up to as many as a day has room for. */
+    private static void fewestByLight() {
+        int[][] due = {{24, 1, 2}, {22, 1, 2}, {20, 1, 4}, {19, 1, 6}, {18, 1, 6}, {17, 1, 8}, {16, 1, 8}, {15, 1, NONE},
+            {14, 1, NONE}, {24, 2, 2}, {18, 2, 4}, {16, 2, 4}, {15, 2, NONE}, {18, 3, 2}, {16, 3, 4}, {15, 3, NONE},
+            {24, 0, 2}, {23, 0, NONE}};
+        for (int[] one : due) {
+            String land = "hours " + one[0] + ";cross " + one[1] + ";person 0 0 12;person 1 0 12;";
+            Bench b = told(land, "");
+            Bench.due("FEWEST of " + land, b.x.best(0, 0), one[2]);
+            Bench.due("WAYS of " + land, b.x.ways(0) > 0, one[2] != NONE);
+        }
+    }
+
     private static void strait() {
         Bench b = told("", "");
         for (int hours = 4; hours <= 24; hours++) {
@@ -239,6 +253,9 @@ final class RowEdgesTest {
         dueBest("hours 4;person 1 1 1;toll 0 2;toll 1 1;", 0, 1, 2, 0, 2, 1);
         dueBest("hours 4;person 1 1 1;toll 0 99;toll 2 99;likes 0 2 2 1;bearer 99 0;", 1, 396, 0, 2, 1, 2);
         dueBest("hours 4;person 1 1 1;toll 0 99;toll 2 99;likes 0 2 2 1;likes 0 3 3 1;", 1, 0, 2, 0, 2, 1);
+        dueBest("hours 4;person 1 1 3;", 0, 0, 0, 2, 1, 2);
+        dueBest("hours 6;person 1 2 4;", 0, 0, 0, 0, 2, 1, 1, 2);
+        dueBest("hours 6;person 1 3 3;", 0, 0, 0, 2, 1, 1, 1, 2);
         dueBest("hours 4;cross 0;person 0 0 0;person 1 0 0;likes 0 0 0 5;likes 1 0 0 5;", 5, 0, 0, 0, 0, 0);
         dueBest("hours 4;cross 0;person 0 0 0;person 1 0 0;likes 0 0 0 5;likes 1 0 0 6;", 6, 0, 1, 0, 0, 0);
     }

@@ -19,6 +19,7 @@ final class TextEdgesTest {
         numbersOfTheOthers();
         spans();
         further();
+        nothingElse();
         howMany();
         hoursThatAreThere();
         peopleWhoAreThere();
@@ -168,6 +169,43 @@ final class TextEdgesTest {
         Bench.due("a WORTH of another set", b.x.game(0, 7, 0), 60);
     }
 
+    /** A line tells of its own thing alone, a text of its own sort and number alone. */
+    private static void nothingElse() {
+        String[] lines = {"hours 5;", "cross 3;", "crowd 5;", "walk 3;", "person 1 3 3;", "bearer 3 3;"};
+        int[] told = {5, 3, 5, 3, 1, 1};
+        int[] first = {12, 1, 0, 1, 0, 0};
+        for (int line = 0; line < lines.length; line++) {
+            Bench b = new Bench();
+            b.tell(Bench.LAND, lines[line]);
+            for (int what = 0; what < 6; what++) {
+                Bench.due("land, " + what + ", by " + lines[line], b.x.land(0, what), what == line ? told[what] : first[what]);
+            }
+        }
+        Bench b = new Bench();
+        String[] texts = {"hours 5;", "night 1 3 3;", "at 1 3;", "saw 1 3 dark;", "worth 3 3;"};
+        for (int sort = 0; sort < 5; sort++) {
+            b.tell(sort, texts[sort]);
+            b.tell(sort, texts[sort]);
+        }
+        for (int sort = 0; sort < 5; sort++) {
+            for (int at = 0; at < 2; at++) {
+                Bench.due("anew, sort " + sort + ", " + at, b.tell(sort, at, ""), at);
+                for (int other = 0; other < 5; other++) {
+                    for (int i = 0; i < 2; i++) {
+                        boolean empty = other < sort || other == sort && i <= at;
+                        Bench.due("sort " + other + ", " + i, isAsTold(b.x, other, i), !empty);
+                    }
+                }
+            }
+        }
+    }
+
+    private static boolean isAsTold(NightBridge x, int sort, int at) {
+        int[] asked = {x.land(at, 0) == 5 ? 1 : 0, x.night(at, 3), x.spell(at, NONE, 0), x.seen(at, NONE, 0),
+            x.game(at, 3, 0) == 3 ? 1 : 0};
+        return asked[sort] == 1;
+    }
+
     /** So many lines are told; one more is a FAULT 3 at its first token, be its own numbers what they may. */
     private static void dueAtMost(int sort, int most, String line, String badLine) {
         String told = Bench.times(most, line);
@@ -310,7 +348,12 @@ final class TextEdgesTest {
                         }
                     }
                     boolean isNumber = token.charAt(0) >= '0' && token.charAt(0) <= '9';
-                    new Bench().dueFault(sort, cut + (isNumber ? ";" : "3 ;"), 1, place);
+                    if (!isNumber) {
+                        new Bench().dueFault(sort, cut + "3 ;", 1, place);
+                    }
+                    if (!token.equals(";")) {
+                        new Bench().dueFault(sort, cut + ";", 1, place);
+                    }
                     place += token.length() + 1;
                 }
             }
