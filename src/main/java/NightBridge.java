@@ -1629,9 +1629,7 @@ public final class NightBridge {
                     tellPerson();
                     break;
                 case LIKES:
-                    Arrays.fill(land.likes, numbers[0] * DAY + numbers[1], numbers[0] * DAY + numbers[2] + 1, numbers[3]);
-                    lastPerson = Math.max(lastPerson, numbers[0]);
-                    lastHour = Math.max(lastHour, numbers[2]);
+                    tellLikes();
                     break;
                 case BEARER:
                     land.cost[land.bearers] = numbers[0];
@@ -1662,6 +1660,13 @@ public final class NightBridge {
             land.need[land.people] = numbers[1];
             land.light[land.people] = numbers[2];
             land.people++;
+        }
+
+        void tellLikes() {
+            int first = numbers[0] * DAY;
+            Arrays.fill(land.likes, first + numbers[1], first + numbers[2] + 1, numbers[3]);
+            lastPerson = Math.max(lastPerson, numbers[0]);
+            lastHour = Math.max(lastHour, numbers[2]);
         }
     }
 
@@ -1816,7 +1821,10 @@ public final class NightBridge {
             return stand <= 1 && from != stand;
         }
 
-        /** What comes behind a stand without leaving a city: stands 2 on are the hours out of city 0, then of city 1. */
+        /**
+         * What comes behind a stand without leaving a city; the stands from 2 on are the hours of the crossing out of
+         * city 0, then of the one out of city 1.
+         */
         int onward(int stand) {
             if (stand <= 1) {
                 return stand;
